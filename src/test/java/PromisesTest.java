@@ -378,6 +378,9 @@ public final class PromisesTest {
         due("17 spoil(0)", x.spoil(0), 1);
         due("17 spoil(1)", x.spoil(1), 1);
         due("17 the kind stays", x.car(0, 0), 0);
+        OneFromEachLane pair = told("w9;ct0100;ct0100;ck2100;ck0000;cc1000;b2;");
+        due("17 spoil(0) by two", pair.spoil(0), 24);
+        due("17 spoil(1) by two", pair.spoil(1), 2);
         OneFromEachLane none = told("cc0000;cc0100;");
         due("17 spoil(0) none", none.spoil(0), -9);
         due("17 spoil(1) none", none.spoil(1), -9);
@@ -436,6 +439,9 @@ public final class PromisesTest {
         due("21 the lane stays", x.car(0, 2), 1);
         x.set(0, 1);
         due("21 two(0, 1) by board 1", x.two(0, 1), 11);
+        due("21 the first goes left alone", told("ct0000;cc0000;cc0000;").two(1, 2), 10);
+        due("21 the other goes left alone", told("cc0100;ct0000;cc0000;").two(2, 1), 1);
+        due("21 no pair stays", told("ct0000;cc0000;").two(0, 1), -9);
         due("21 two(0, 0)", x.two(0, 0), -1);
         due("21 two(0, 2)", x.two(0, 2), -1);
         due("21 two(2, 0)", x.two(2, 0), -1);
