@@ -1,8 +1,13 @@
+import java.lang.reflect.Method;
 import java.util.ArrayList;
 import java.util.Arrays;
 import java.util.Comparator;
+import java.util.HashMap;
 import java.util.List;
+import java.util.Map;
 import java.util.function.Consumer;
+import java.util.function.IntPredicate;
+import java.util.function.IntUnaryOperator;
 import java.util.function.ToIntFunction;
 import java.util.regex.Matcher;
 import java.util.regex.Pattern;
@@ -460,7 +465,7 @@ public final class ModelTest {
         }
 
         /** The first of n for which the measure is least, and below a limit. */
-        static int least(int n, int limit, java.util.function.IntUnaryOperator measure) {
+        static int least(int n, int limit, IntUnaryOperator measure) {
             return IntStream.range(0, n).boxed().filter(i -> measure.applyAsInt(i) < limit)
                 .min(Comparator.comparingInt(i -> measure.applyAsInt(i))).orElse(-9);
         }
@@ -498,7 +503,7 @@ public final class ModelTest {
         }
 
         /** The fewest bits, of several the least, that do. */
-        int fewest(java.util.function.IntPredicate does) {
+        int fewest(IntPredicate does) {
             return IntStream.range(0, 1 << now.size()).filter(does).boxed()
                 .min(Comparator.<Integer>comparingInt(Integer::bitCount).thenComparingInt(i -> i)).orElse(-9);
         }
@@ -600,7 +605,7 @@ public final class ModelTest {
                 return refuse(-2);
             }
             List<Gone> gone = now.drive();
-            java.util.function.IntUnaryOperator gapBehind = i -> gone.get(i + 1).wait - gone.get(i).wait;
+            IntUnaryOperator gapBehind = i -> gone.get(i + 1).wait - gone.get(i).wait;
             int turn = least(gone.size() - 1, Integer.MAX_VALUE, i -> -gapBehind.applyAsInt(i));
             return what == 1 ? turn : turn == -9 ? 0 : gapBehind.applyAsInt(turn);
         }
@@ -831,92 +836,31 @@ public final class ModelTest {
         }
     }
 
-    private static int call(OneFromEachLane x, String name, int[] a) {
-        return switch (name) {
-            case "letter" -> x.letter(a[0]);
-            case "road" -> x.road();
-            case "car" -> x.car(a[0], a[1]);
-            case "hurry" -> x.hurry(a[0], a[1]);
-            case "goOver" -> x.goOver(a[0]);
-            case "standFirst" -> x.standFirst(a[0]);
-            case "set" -> x.set(a[0], a[1]);
-            case "order" -> x.order(a[0]);
-            case "of" -> x.of(a[0], a[1]);
-            case "sums" -> x.sums(a[0]);
-            case "queue" -> x.queue(a[0], a[1]);
-            case "bestBoard" -> x.bestBoard();
-            case "over" -> x.over(a[0]);
-            case "first" -> x.first(a[0]);
-            case "lets" -> x.lets();
-            case "spoil" -> x.spoil(a[0]);
-            case "mend" -> x.mend(a[0]);
-            case "loses" -> x.loses(a[0], a[1]);
-            case "byWhom" -> x.byWhom(a[0]);
-            case "two" -> x.two(a[0], a[1]);
-            case "fair" -> x.fair();
-            case "lucky" -> x.lucky();
-            case "away" -> x.away();
-            case "wider" -> x.wider();
-            case "gap" -> x.gap(a[0]);
-            case "even" -> x.even(a[0]);
-            case "keep" -> x.keep(a[0], a[1]);
-            case "who" -> x.who(a[0], a[1]);
-            case "row" -> x.row(a[0]);
-            case "judge" -> x.judge();
-            case "clear" -> x.clear();
-            case "lots" -> x.lots(a[0], a[1], a[2]);
-            case "image" -> x.image();
-            case "on" -> x.on();
-            default -> x.count(a[0]);
-        };
+    private static final Map<String, Method> FACE = methodsOf(OneFromEachLane.class);
+    private static final Map<String, Method> SECOND = methodsOf(Model.class);
+
+    private static Map<String, Method> methodsOf(Class<?> type) {
+        Map<String, Method> methods = new HashMap<>();
+        for (Method method : type.getDeclaredMethods()) {
+            methods.put(method.getName(), method);
+        }
+        return methods;
     }
 
-    private static int call(Model x, String name, int[] a) {
-        return switch (name) {
-            case "letter" -> x.letter(a[0]);
-            case "road" -> x.road();
-            case "car" -> x.car(a[0], a[1]);
-            case "hurry" -> x.hurry(a[0], a[1]);
-            case "goOver" -> x.goOver(a[0]);
-            case "standFirst" -> x.standFirst(a[0]);
-            case "set" -> x.set(a[0], a[1]);
-            case "order" -> x.order(a[0]);
-            case "of" -> x.of(a[0], a[1]);
-            case "sums" -> x.sums(a[0]);
-            case "queue" -> x.queue(a[0], a[1]);
-            case "bestBoard" -> x.bestBoard();
-            case "over" -> x.over(a[0]);
-            case "first" -> x.first(a[0]);
-            case "lets" -> x.lets();
-            case "spoil" -> x.spoil(a[0]);
-            case "mend" -> x.mend(a[0]);
-            case "loses" -> x.loses(a[0], a[1]);
-            case "byWhom" -> x.byWhom(a[0]);
-            case "two" -> x.two(a[0], a[1]);
-            case "fair" -> x.fair();
-            case "lucky" -> x.lucky();
-            case "away" -> x.away();
-            case "wider" -> x.wider();
-            case "gap" -> x.gap(a[0]);
-            case "even" -> x.even(a[0]);
-            case "keep" -> x.keep(a[0], a[1]);
-            case "who" -> x.who(a[0], a[1]);
-            case "row" -> x.row(a[0]);
-            case "judge" -> x.judge();
-            case "clear" -> x.clear();
-            case "lots" -> x.lots(a[0], a[1], a[2]);
-            case "image" -> x.image();
-            case "on" -> x.on();
-            default -> x.count(a[0]);
-        };
+    private static int call(Object target, Method method, int[] a) {
+        try {
+            return (Integer) method.invoke(target, Arrays.stream(a).boxed().toArray());
+        } catch (ReflectiveOperationException e) {
+            throw new IllegalStateException(method + Arrays.toString(a), e);
+        }
     }
 
     private static final List<String> HISTORY = new ArrayList<>();
 
     /** Whether both answer alike; if not, the run is printed. */
     private static boolean agree(OneFromEachLane x, Model m, String name, int... a) {
-        int want = call(m, name, a);
-        int got = call(x, name, a);
+        int want = call(m, SECOND.get(name), a);
+        int got = call(x, FACE.get(name), a);
         HISTORY.add(name + Arrays.toString(a) + " -> " + want);
         if (got != want) {
             System.out.println(String.join("\n", HISTORY));

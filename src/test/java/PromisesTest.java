@@ -301,6 +301,7 @@ public final class PromisesTest {
         }
         due("11 sums(5)", x.sums(5), -2);
         due("11 sums(-1)", x.sums(-1), -2);
+        due("11 one change of three", told("cc0000;cc0000;cc0000;cc0100;").sums(3), 1);
         due("11 longest run of three", told("cc0000;cc0000;cc0000;cc0100;").sums(4), 3);
         dueRefusals("11", x, 0, 2, 0, 0, 0);
     }
@@ -384,6 +385,7 @@ public final class PromisesTest {
         OneFromEachLane none = told("cc0000;cc0100;");
         due("17 spoil(0) none", none.spoil(0), -9);
         due("17 spoil(1) none", none.spoil(1), -9);
+        due("17 a pusher already", told("cp0000;").spoil(0), -9);
         due("17 spoil(2)", x.spoil(2), -2);
         due("17 spoil(-1)", x.spoil(-1), -2);
         dueRefusals("17", x, 0, 2, 0, 0, 0);
@@ -441,6 +443,7 @@ public final class PromisesTest {
         due("21 two(0, 1) by board 1", x.two(0, 1), 11);
         due("21 the first goes left alone", told("ct0000;cc0000;cc0000;").two(1, 2), 10);
         due("21 the other goes left alone", told("cc0100;ct0000;cc0000;").two(2, 1), 1);
+        due("21 waits alike in both lanes", told("cc0000;cc0000;w0;").two(0, 1), 0);
         due("21 no pair stays", told("ct0000;cc0000;").two(0, 1), -9);
         due("21 two(0, 0)", x.two(0, 0), -1);
         due("21 two(0, 2)", x.two(0, 2), -1);
@@ -486,6 +489,11 @@ public final class PromisesTest {
         OneFromEachLane wave = told("cc0000;cc0000;cc0100;w9;");
         due("26 gap(0) by a wave", wave.gap(0), 11);
         due("26 gap(1) by a wave", wave.gap(1), 1);
+        OneFromEachLane two = told("cc0000;cl0000;cc0000;");
+        due("26 gap(0) behind the first", two.gap(0), 4);
+        due("26 gap(1) behind the first", two.gap(1), 0);
+        OneFromEachLane alike = told("cc0000;cc0000;cc0000;");
+        due("26 gap(1) of several", alike.gap(1), 0);
         OneFromEachLane one = told("cl0000;");
         due("26 gap(0) of one", one.gap(0), 0);
         due("26 gap(1) of one", one.gap(1), -9);
