@@ -871,10 +871,10 @@ public final class ModelTest {
 
     private static boolean spell(OneFromEachLane x, Model m, String text) {
         boolean alike = true;
-        for (int i = 0; i < text.length() && alike; i++) {
+        for (int i = 0; i < text.length() && alike && HISTORY.size() < CALLS; i++) {
             alike = agree(x, m, "letter", text.charAt(i));
         }
-        return alike && agree(x, m, "road");
+        return alike && (HISTORY.size() >= CALLS || agree(x, m, "road"));
     }
 
     private static boolean run() {

@@ -1,50 +1,5 @@
 /** For each promise of the document its ordinary answers, its edges and its refusals, reckoned by hand. */
-public final class PromisesTest {
-    private static int wrong = 0;
-
-    private static void due(String call, int got, int want) {
-        if (got != want) {
-            wrong++;
-            System.out.println(call + " answered " + got + ", due is " + want);
-        }
-    }
-
-    private static void spell(OneFromEachLane x, String text) {
-        for (int i = 0; i < text.length(); i++) {
-            x.letter(text.charAt(i));
-        }
-    }
-
-    private static int tell(OneFromEachLane x, String text) {
-        spell(x, text);
-        return x.road();
-    }
-
-    private static OneFromEachLane told(String text) {
-        OneFromEachLane x = new OneFromEachLane();
-        if (tell(x, text) < 0) {
-            wrong++;
-            System.out.println("refused the road " + text);
-        }
-        return x;
-    }
-
-    private static void dueOrder(String name, OneFromEachLane x, int... cars) {
-        for (int turn = 0; turn < cars.length; turn++) {
-            due(name + " order(" + turn + ")", x.order(turn), cars[turn]);
-        }
-        due(name + " order(behind the last)", x.order(cars.length), -1);
-    }
-
-    private static void dueRefusals(String name, OneFromEachLane x, int nobody, int other, int state, int below, int room) {
-        due(name + " count(11)", x.count(11), nobody);
-        due(name + " count(12)", x.count(12), other);
-        due(name + " count(13)", x.count(13), state);
-        due(name + " count(14)", x.count(14), below);
-        due(name + " count(15)", x.count(15), 0);
-        due(name + " count(16)", x.count(16), room);
-    }
-
+public final class PromisesTest extends Check {
     private static void newObject1() {
         OneFromEachLane x = new OneFromEachLane();
         int[] first = {0, 0, 0, 0, 1, 0, 0, 0, 0};
@@ -723,9 +678,6 @@ public final class PromisesTest {
         image34();
         on35();
         count36();
-        System.out.println(wrong == 0 ? "all answers are as due" : wrong + " answers are not as due");
-        if (wrong != 0) {
-            System.exit(1);
-        }
+        end();
     }
 }
